@@ -34,6 +34,8 @@ public final class RunTest {
         failStopsAtDetached();
         failIsForgottenWhenSpawnedAgain();
         aFailedRoundIsTheLast();
+        allTasksInOneLine();
+        allTasksParked();
         Due.close("RunTest");
     }
 
@@ -750,5 +752,50 @@ public final class RunTest {
         Due.step("to the round's end", x, 0, 1, 1);
         Due.is("and no further", x.state(), 4);
         Due.is("rounds", x.round(), 1);
+    }
+
+    /** As many tasks as there can be: in the shared line, then children in a worker's own. */
+    private static void allTasksInOneLine() {
+        SubflowExecutor x = Due.plain(1, 24);
+        x.start(1);
+        for (int t = 0; t < 24; t++) {
+            Due.step("all in the shared line", x, 0, t, 1);
+        }
+        Due.is("over", x.state(), 3);
+        x.start(1);
+        Due.is("all dropped", x.cancel(), 24);
+
+        SubflowExecutor y = new SubflowExecutor(1);
+        y.add(2, NONE, 0);
+        for (int t = 1; t < 24; t++) {
+            y.add(0, 0, 0);
+        }
+        Due.is("nothing against it", y.check(), 0);
+        y.start(1);
+        Due.step("waits for 23 children", y, 0, 0, 0);
+        for (int t = 23; t > 1; t--) {
+            Due.step("all in line 0", y, 0, t, 1);
+        }
+        Due.step("the last child", y, 0, 1, 2);
+        Due.is("over", y.state(), 3);
+    }
+
+    private static void allTasksParked() {
+        SubflowExecutor x = new SubflowExecutor(2);
+        for (int t = 0; t < 24; t++) {
+            x.add(0, NONE, 1);
+        }
+        x.start(1);
+        Due.is("holds the unit", x.begin(0), 0);
+        Due.is("parks all others", x.begin(1), NONE);
+        for (int t = 1; t < 24; t++) {
+            Due.is("parked " + t, x.where(t), Due.PARKED);
+        }
+        Due.is("ends", x.finish(0, 0), 1);
+        Due.is("the first of them", x.lineAt(2, 0), 1);
+        Due.is("the last of them", x.lineAt(2, 22), 23);
+        Due.is("runs", x.begin(1), 1);
+        Due.is("parks the rest", x.begin(0), NONE);
+        Due.is("dropped", x.cancel(), 22);
     }
 }
