@@ -20,6 +20,7 @@ public final class GraphTest {
         aRefusedCapacityChangesNothing();
         checkNoTask();
         checkGroupWithoutSource();
+        checkAllTasksWithoutSource();
         checkStrongCycle();
         checkInOrder();
         checkDuringARun();
@@ -292,6 +293,15 @@ public final class GraphTest {
         x.add(2, NONE, 0);
         x.add(0, 4, 0);
         Due.is("the source of another group does not count", x.check(), 2);
+    }
+
+    private static void checkAllTasksWithoutSource() {
+        SubflowExecutor x = new SubflowExecutor(1);
+        for (int t = 0; t < 24; t++) {
+            x.add(1, NONE, 0);
+            x.edge(t, t);
+        }
+        Due.is("24 tasks, none a source", x.check(), 2);
     }
 
     private static void checkStrongCycle() {
