@@ -36,6 +36,14 @@ final class Due {
         is(what, got ? 1 : 0, 0);
     }
 
+    static void same(String what, String got, String want) {
+        checked++;
+        if (!got.equals(want)) {
+            wrong++;
+            System.out.println(what + ": got " + got + ", due is " + want);
+        }
+    }
+
     /** The whole line l, and nothing behind its end. */
     static void line(String what, SubflowExecutor x, int l, int... tasks) {
         for (int k = 0; k < tasks.length; k++) {
