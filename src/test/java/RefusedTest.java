@@ -8,6 +8,7 @@ import java.util.function.ToIntFunction;
  */
 public final class RefusedTest {
     private static final int NONE = Due.NONE;
+    private static final int WORKERS = 3;
     private static final int[] FAR = {-2, Integer.MIN_VALUE, Integer.MAX_VALUE};
 
     public static void main(String[] args) {
@@ -34,7 +35,8 @@ public final class RefusedTest {
         SubflowExecutor twin = made.get();
         Due.is(what, call.applyAsInt(asked), due);
         Due.same(what + " changes nothing", Whole.answers(asked), Whole.answers(twin));
-        Due.same(what + " changes nothing later", Whole.later(asked), Whole.later(twin));
+        Due.same(what + " changes nothing later",
+                Whole.later(asked, WORKERS), Whole.later(twin, WORKERS));
     }
 
     private static void add(String in, Supplier<SubflowExecutor> made,
@@ -73,19 +75,21 @@ public final class RefusedTest {
     // The objects.
 
     /**
-     * Three workers. 0 (JOINED) holds 1 and 2, which need semaphore 0; 3 leads to the choice 4,
-     * and 0 and 3 to 5; 4 leads to itself and to 5, and needs semaphore 1, of two units.
+     * 0 (JOINED) holds 1 and 2, which need semaphore 0; 3 leads to 6 and to the choice 4, and 0 and
+     * 3 to 5; 4 leads to itself and to 5; 4 and 6 need semaphore 1, of two units.
      */
     private static SubflowExecutor built() {
-        SubflowExecutor x = new SubflowExecutor(3);
+        SubflowExecutor x = new SubflowExecutor(WORKERS);
         x.add(Due.JOINED, NONE, 0);
         x.add(Due.PLAIN, 0, 1);
         x.add(Due.PLAIN, 0, 1);
         x.add(Due.PLAIN, NONE, 0);
         x.add(Due.CHOICE, NONE, 2);
         x.add(Due.PLAIN, NONE, 0);
+        x.add(Due.PLAIN, NONE, 2);
         x.edge(0, 5);
         x.edge(3, 5);
+        x.edge(3, 6);
         x.edge(3, 4);
         x.edge(4, 4);
         x.edge(4, 5);
@@ -93,7 +97,10 @@ public final class RefusedTest {
         return x;
     }
 
-    /** In the first of three rounds: 0 is WAITING, 1 PARKED, 2 RUNNING by worker 0, 4 READY. */
+    /**
+     * In the first of three rounds: 0 is WAITING, 1 PARKED, 2 RUNNING by worker 0 and 6 by worker
+     * 2, 4 READY in the line of worker 1, which is free.
+     */
     private static SubflowExecutor midway() {
         SubflowExecutor x = built();
         x.start(3);
@@ -117,12 +124,14 @@ public final class RefusedTest {
     private static SubflowExecutor overCancelled() {
         SubflowExecutor x = cancelled();
         x.finish(0, 0);
+        x.finish(2, 0);
         return x;
     }
 
     private static SubflowExecutor overFailed() {
         SubflowExecutor x = midway();
         x.fail(0);
+        x.finish(2, 0);
         for (int turn = 0; turn < 4 && x.state() == 1; turn++) {
             x.begin(0);
             x.finish(0, 2);
@@ -131,7 +140,7 @@ public final class RefusedTest {
     }
 
     private static SubflowExecutor overWhole() {
-        SubflowExecutor x = Due.plain(3, 3);
+        SubflowExecutor x = Due.plain(WORKERS, 3);
         x.edge(0, 2);
         x.start(2);
         for (int turn = 0; turn < 6; turn++) {
@@ -142,13 +151,13 @@ public final class RefusedTest {
     }
 
     private static SubflowExecutor full() {
-        SubflowExecutor x = Due.plain(2, 23);
+        SubflowExecutor x = Due.plain(WORKERS, 23);
         x.add(Due.JOINED, NONE, 0);
         return x;
     }
 
     private static SubflowExecutor deep() {
-        SubflowExecutor x = new SubflowExecutor(2);
+        SubflowExecutor x = new SubflowExecutor(WORKERS);
         x.add(Due.JOINED, NONE, 0);
         x.add(Due.DETACHED, 0, 0);
         x.add(Due.JOINED, 1, 0);
@@ -158,7 +167,7 @@ public final class RefusedTest {
     }
 
     private static SubflowExecutor sixEdges() {
-        SubflowExecutor x = Due.plain(2, 8);
+        SubflowExecutor x = Due.plain(WORKERS, 8);
         for (int b = 1; b <= 6; b++) {
             x.edge(0, b);
         }
@@ -166,7 +175,7 @@ public final class RefusedTest {
     }
 
     private static SubflowExecutor noSource() {
-        SubflowExecutor x = new SubflowExecutor(2);
+        SubflowExecutor x = new SubflowExecutor(WORKERS);
         x.add(Due.JOINED, NONE, 0);
         x.add(Due.CHOICE, 0, 0);
         x.edge(1, 1);
@@ -174,7 +183,7 @@ public final class RefusedTest {
     }
 
     private static SubflowExecutor cycle() {
-        SubflowExecutor x = Due.plain(2, 3);
+        SubflowExecutor x = Due.plain(WORKERS, 3);
         x.edge(1, 2);
         x.edge(2, 1);
         return x;
@@ -183,12 +192,13 @@ public final class RefusedTest {
     /** The tests below lean on what these objects are. */
     private static void theTwinsAreAsTold() {
         SubflowExecutor x = midway();
-        int[] where = {Due.WAITING, Due.PARKED, Due.RUNNING, Due.IDLE, Due.READY + 1, Due.IDLE};
-        for (int t = 0; t < 6; t++) {
+        int[] where = {Due.WAITING, Due.PARKED, Due.RUNNING, Due.IDLE, Due.READY + 1, Due.IDLE,
+            Due.RUNNING + 2};
+        for (int t = 0; t < 7; t++) {
             Due.is("midway, where " + t, x.where(t), where[t]);
         }
         Due.is("midway, arrivals", x.arrivals(5), 1);
-        Due.is("midway, steals", x.steals(), 1);
+        Due.is("midway, steals", x.steals(), 2);
         Due.is("midway", x.state(), 1);
         Due.is("cancelled", cancelled().state(), 2);
         Due.is("over, cancelled", overCancelled().state(), 5);
@@ -202,7 +212,7 @@ public final class RefusedTest {
     // The refused calls.
 
     private static void aNewObject() {
-        Supplier<SubflowExecutor> made = () -> new SubflowExecutor(2);
+        Supplier<SubflowExecutor> made = () -> new SubflowExecutor(WORKERS);
         wrongInputs("new", made, 0);
         start("new, no task", made, 1);
         start("new, no task", made, 9);
@@ -273,14 +283,14 @@ public final class RefusedTest {
     }
 
     private static void beforeTheFirstRun() {
-        wrongInputs("built", RefusedTest::built, 6);
+        wrongInputs("built", RefusedTest::built, 7);
         noRun("built", RefusedTest::built);
         wrongGroups("built", RefusedTest::built);
     }
 
     /** What is refused for the tasks that built() has. */
     private static void wrongGroups(String in, Supplier<SubflowExecutor> made) {
-        for (int parent : new int[] {1, 3, 4, 5}) {
+        for (int parent : new int[] {1, 3, 4, 5, 6}) {
             add(in + ", PLAIN or CHOICE", made, 0, parent, 0);
         }
         edge(in + ", to a child", made, 0, 1);
@@ -291,10 +301,10 @@ public final class RefusedTest {
 
     private static void underWay() {
         changes("under way", RefusedTest::midway);
-        for (int w : new int[] {0, -1, 3, 4, FAR[1], FAR[2]}) {
+        for (int w : new int[] {0, 2, -1, 3, 4, FAR[1], FAR[2]}) {
             begin("under way", RefusedTest::midway, w);
         }
-        for (int w : new int[] {1, 2, -1, 3, 4, FAR[1], FAR[2]}) {
+        for (int w : new int[] {1, -1, 3, 4, FAR[1], FAR[2]}) {
             body("under way", RefusedTest::midway, w);
         }
     }
@@ -319,11 +329,11 @@ public final class RefusedTest {
 
     private static void underWayAndCancelled() {
         changes("cancelled", RefusedTest::cancelled);
-        for (int w : new int[] {0, -1, 3, 4, FAR[1], FAR[2]}) {
+        for (int w : new int[] {0, 2, -1, 3, 4, FAR[1], FAR[2]}) {
             begin("cancelled", RefusedTest::cancelled, w);
         }
         begin("cancelled, all lines empty", RefusedTest::cancelled, 1);
-        for (int w : new int[] {1, 2, -1, 3, 4, FAR[1], FAR[2]}) {
+        for (int w : new int[] {1, -1, 3, 4, FAR[1], FAR[2]}) {
             body("cancelled", RefusedTest::cancelled, w);
         }
         cancel("cancelled already", RefusedTest::cancelled);
@@ -332,17 +342,17 @@ public final class RefusedTest {
     private static void overInEachWay() {
         wrongInputs("over", RefusedTest::overWhole, 3);
         noRun("over", RefusedTest::overWhole);
-        wrongInputs("over, failed", RefusedTest::overFailed, 6);
+        wrongInputs("over, failed", RefusedTest::overFailed, 7);
         wrongGroups("over, failed", RefusedTest::overFailed);
         noRun("over, failed", RefusedTest::overFailed);
-        wrongInputs("over, cancelled", RefusedTest::overCancelled, 6);
+        wrongInputs("over, cancelled", RefusedTest::overCancelled, 7);
         wrongGroups("over, cancelled", RefusedTest::overCancelled);
         noRun("over, cancelled", RefusedTest::overCancelled);
     }
 
     /** A question changes nothing either, least of all about what there is not. */
     private static void questionsOfNothing() {
-        for (int n : new int[] {-1, 0, 5, 6, 24, FAR[1], FAR[2]}) {
+        for (int n : new int[] {-1, 0, 6, 7, 24, FAR[1], FAR[2]}) {
             SubflowExecutor asked = midway();
             SubflowExecutor twin = midway();
             asked.runs(n);
@@ -352,7 +362,8 @@ public final class RefusedTest {
             asked.lineAt(0, n);
             asked.held(n);
             Due.same("asked about " + n, Whole.answers(asked), Whole.answers(twin));
-            Due.same("asked about " + n + ", later", Whole.later(asked), Whole.later(twin));
+            Due.same("asked about " + n + ", later",
+                    Whole.later(asked, WORKERS), Whole.later(twin, WORKERS));
         }
     }
 }
