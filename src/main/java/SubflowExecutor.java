@@ -331,16 +331,17 @@ public final class SubflowExecutor {
     }
 
     private void wakeParked(int needs) {
-        int k = 0;
-        for (int left = parked.length; left > 0; left--) {
-            int t = parked.taskAt(k);
+        int stay = 0;
+        for (int k = 0; k < parked.length; k++) {
+            int t = parked.tasks[k];
             if ((graph.needs[t] & needs) != 0) {
-                parked.takeOut(k);
                 makeReady(t, workers);
             } else {
-                k++;
+                parked.tasks[stay] = t;
+                stay++;
             }
         }
+        parked.length = stay;
     }
 
     private void spawn(int t, int line) {
@@ -589,8 +590,10 @@ public final class SubflowExecutor {
         }
 
         void append(int t) {
-            tasks[length] = t;
-            length++;
+            if (length < tasks.length) {
+                tasks[length] = t;
+                length++;
+            }
         }
 
         int takeOut(int k) {
